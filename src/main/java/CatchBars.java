@@ -681,7 +681,7 @@ public final class CatchBars {
 
         private int kind;
         private int m;
-        private int turnCount = 1;
+        private int turnCount;
         private int goes;
 
         /** As a new one: an object of a row is used again, so nothing of the one ahead may stay. */
@@ -1079,17 +1079,17 @@ public final class CatchBars {
         }
 
         /** OFF of the latest fly(), with THE CATCHER so many TICKS ahead of himself. */
-        int off(int slip) {
-            return place - (world.gap - far.placeAt(comes + slip));
+        int off(int ahead) {
+            return place - (world.gap - far.placeAt(comes + ahead));
         }
 
-        private boolean isHeld(int slip) {
-            return Math.abs(off(slip)) <= flyer.holds(world.reach);
+        private boolean isHeld(int off) {
+            return Math.abs(off) <= flyer.holds(world.reach);
         }
 
         boolean isCaught(int told) {
             fly(told, 0);
-            return isHeld(0);
+            return isHeld(off(0));
         }
 
         int howManyCaught(int n) {
@@ -1115,7 +1115,7 @@ public final class CatchBars {
             for (int slip = -1; slip <= 1; slip++) {
                 fly(told, slip);
                 for (int ahead = -1; ahead <= 1; ahead++) {
-                    many += isHeld(ahead) ? 1 : 0;
+                    many += isHeld(off(ahead)) ? 1 : 0;
                 }
             }
             return many;

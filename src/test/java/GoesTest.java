@@ -11,6 +11,7 @@ public final class GoesTest {
         most();
         ticks();
         evenings();
+        eveningsAsThought();
         eveningsOfMany();
         eveningsAtTheEnd();
         rest();
@@ -138,63 +139,101 @@ public final class GoesTest {
         due.due("at TICK 9999", x.then(0, 60, 2), 9999 + 60 + 5);
     }
 
-    /** By hand: z 1 gives 1103527590, draw 4310654, at 2; then 2524885223, draw 9862832, at 8, and so on. */
+    /**
+     * A world that tells TICKS to come from those that went: BARS are 0, -20, 0, 20 from TICK 0 on, and
+     * only where both are 20 is the GAP of 40 closed.
+     */
+    private static CatchBars lopsided() {
+        CatchBars x = Due.plain();
+        x.swing(0, 2, 1);
+        x.swing(1, 2, 1);
+        x.set(0, 40);
+        return x;
+    }
+
+    /** In a lopsided world, by the rest of the TICK by 4: HARM of a fall, or 0 for a catch. */
+    private static final int[] HARMS = {30, 50, 30, 0};
+
     private static void evenings() {
-        CatchBars x = Due.plain(0);
+        CatchBars x = lopsided();
+        x.flyer(0);
         int z = 1;
         int catches = 0;
         int falls = 0;
         int hurt = 0;
         for (int i = 1; i <= 30; i++) {
             z = z * 1103515245 + 12345;
-            int told = (z >>> 8) % 12;
-            if (told % 2 == 1) {
-                catches++;
-            } else {
-                falls++;
-                hurt += told % 4 == 0 ? 10 : 50;
-            }
+            int harm = HARMS[(z >>> 8) % 12 % 4];
+            catches += harm == 0 ? 1 : 0;
+            falls += harm == 0 ? 0 : 1;
+            hurt += harm;
             due.due("evenings(1), the " + i + ". time", x.evenings(1), catches);
             counts("evening " + i, x, 12 * i, catches, falls, hurt);
             due.due("z", x.count(11), z);
         }
         due.due("some were caught", catches > 3 && falls > 3 ? 1 : 0, 1);
         due.due("GOES", x.ofFlyer(0, 3), 30);
-        CatchBars y = Due.plain(0);
+        CatchBars y = lopsided();
+        y.flyer(0);
         due.due("evenings(30)", y.evenings(30), catches);
         counts("30 evenings", y, 360, catches, falls, hurt);
         due.due("z", y.count(11), z);
-        due.due("by hand, seed", new CatchBars().seed(0), 1);
+        due.dueForAll("evenings", Due.BEYOND, n -> y.evenings(n), 0, 41, -1, MIN, MAX);
+        due.due("z after ERRORS", y.count(11), z);
+        // By hand: z 1 makes 1103527590, which gives 4310654, whose rest by 12 is 2.
         CatchBars first = Due.plain(0);
         first.evenings(1);
         due.due("by hand, z", first.count(11), 1103527590);
         due.due("by hand, HURT", first.count(4), 50);
-        due.dueForAll("evenings", Due.BEYOND, n -> y.evenings(n), 0, 41, -1, MIN, MAX);
-        due.due("z after ERRORS", y.count(11), z);
+    }
+
+    /** Each evening as then() tells it ahead, with the SWINGS as at first, whose PERIOD tells all 12 apart. */
+    private static void eveningsAsThought() {
+        CatchBars x = new CatchBars();
+        x.flyer(19);
+        x.swing(0, 2, 5);
+        x.swing(1, 0, 11);
+        int z = -123456789;
+        x.seed(z);
+        int catches = 0;
+        int hurt = 0;
+        for (int i = 0; i < 60; i++) {
+            z = z * 1103515245 + 12345;
+            int wait = (z >>> 8) % 12;
+            int caught = x.then(0, wait, 1);
+            catches += caught;
+            hurt += caught == 1 ? 0 : x.then(0, wait, 4);
+            due.due("evenings(1) as thought", x.evenings(1), catches);
+            due.due("HURT as thought", x.count(4), hurt);
+        }
+        due.due("some were caught", catches > 3 && catches < 57 ? 1 : 0, 1);
     }
 
     /** A draw for each FLYER, by numbers; TICK goes on when all have gone. */
     private static void eveningsOfMany() {
-        CatchBars x = Due.plain();
+        CatchBars x = lopsided();
         int z = 77;
         x.seed(z);
-        for (int i = 0; i < 4; i++) {
-            x.flyer(0);
-        }
+        // NETTED ones have half of the HARM, and of one more at their second GO, and so on.
+        x.flyer(0);
+        x.flyer(60);
+        x.flyer(0);
+        x.flyer(69);
         int caught = 0;
         int hurt = 0;
-        for (int evening = 0; evening < 5; evening++) {
+        for (int evening = 0; evening < 2; evening++) {
             for (int i = 0; i < 4; i++) {
                 z = z * 1103515245 + 12345;
-                int told = (z >>> 8) % 12;
-                caught += told % 2;
-                hurt += told % 2 == 1 ? 0 : told % 4 == 0 ? 10 : 50;
+                int told = (z >>> 8) % 12 + (i == 1 && evening > 0 ? 1 : 0);
+                int harm = HARMS[told % 4];
+                caught += harm == 0 ? 1 : 0;
+                hurt += harm == 0 ? 0 : i % 2 == 0 ? harm : (harm + evening) / 2;
             }
         }
-        due.due("evenings(5) of 4", x.evenings(5), caught);
-        counts("5 evenings of 4", x, 60, caught, 20 - caught, hurt);
+        due.due("evenings(2) of 4", x.evenings(2), caught);
+        counts("2 evenings of 4", x, 24, caught, 8 - caught, hurt);
         due.due("z", x.count(11), z);
-        due.due("rest()", x.rest(), 20);
+        due.due("rest()", x.rest(), 8);
         CatchBars no = Due.plain();
         due.due("evenings(40) of none", no.evenings(40), 0);
         counts("40 evenings of none", no, 480, 0, 0, 0);

@@ -75,6 +75,16 @@ public final class ImagesTest {
         x.go(2);
         x.go(0);
         x.evenings(3);
+        x.set(0, 0);
+        x.set(1, 30);
+        for (int s = 0; s < 2; s++) {
+            x.swing(s, 1, 1);
+        }
+        Due.text(x, 1, "0");
+        due.due("a catch more", x.go(0), 0);
+        due.due("CATCHES are not as they were", x.count(2) == catches ? 1 : 0, 0);
+        due.due("FALLS are not as they were", x.count(3) == falls ? 1 : 0, 0);
+        due.due("HURT is not as it was", x.count(4) == hurt ? 1 : 0, 0);
         x.check();
         x.tell(5);
         Due.feed(x, "99");

@@ -54,6 +54,7 @@ public final class LanguageTest {
             for (String method : scan.calls.keySet()) {
                 deepest = Math.max(deepest, depth(method, scan.calls, new ArrayList<>()));
             }
+            System.out.println("LanguageTest: calls go " + deepest + " deep");
             due.due("calls at most 8 deep: " + deepest, deepest <= 8 ? 1 : 0, 1);
         }
         due.end();

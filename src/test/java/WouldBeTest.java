@@ -16,6 +16,8 @@ public final class WouldBeTest {
         net();
         phases();
         late();
+        ahead();
+        anew();
         thoughtOnly();
         due.end();
     }
@@ -286,6 +288,8 @@ public final class WouldBeTest {
         net(x, 1, -99, 60);
         x.swing(0, 1, 59);
         net(x, 1, -99, 59);
+        Due.text(x, 1, "0-39");
+        net(x, 1, -98, 0);
         x.swing(0, 1, 1);
         x.swing(0, 2, 2);
         Due.text(x, 1, "99");
@@ -371,6 +375,90 @@ public final class WouldBeTest {
         due.due("its own LAG is as it was", x.ofFlyer(0, 4), 2);
         due.dueForAll("late's flyer", Due.BEYOND, f -> x.late(f, 0), -1, 1, MIN, MAX);
         due.dueForAll("late's sheet", Due.BEYOND, s -> x.late(0, s), -1, 4, MIN, MAX);
+    }
+
+    /** A world in which one is caught at TICK 3 alone (and 7, ..): what comes is not as what went. */
+    private static void ahead() {
+        CatchBars x = Due.plain(0);
+        x.swing(0, 2, 1);
+        x.swing(1, 2, 1);
+        x.set(0, 40);
+        Due.text(x, 1, "v*0");
+        due.due("can by 3", x.can(0, 3, 0), 0);
+        due.due("NEXT by 4", x.can(0, 4, 1), 3);
+        due.due("can by 60", x.can(0, 60, 0), 15);
+        due.due("mend at 1", x.mend(0, 1, 0, 0), -80);
+        due.due("mend at 3", x.mend(0, 3, 0, 0), 0);
+        due.due("odds at 1", x.odds(0, 1, 0), 0);
+        due.due("odds at 3", x.odds(0, 3, 0), 1);
+        due.due("surest by 4: at 0 a slip helps", x.surest(0, 4), 0);
+        again(x, 3, 9, 9, -7, 1);
+        again(x, 4, 90, 0, 170, 9);
+        // Falls at 0, -20, 0 or, if one looked back, at 0, 20, 0.
+        net(x, 2, -20, 20);
+        net(x, 3, 0, 20);
+        due.due("inStep by 1", x.inStep(0, 1), Due.NONE);
+        due.due("inStep by 4", x.inStep(0, 4), 0);
+        Due.text(x, 1, "(v+1<0)*40");
+        x.set(1, 0);
+        due.due("lets go at 0: 40, at 1: 20, at 2: 0, at 3: 20", x.then(0, 0, 3), 40);
+        due.due("caught at 0: 40 less 40", x.then(0, 0, 1), 1);
+        due.due("odds of 1", x.odds(0, 1, 0), 1);
+        due.due("odds of 1", x.odds(0, 1, 1), 9);
+        due.due("odds of 2", x.odds(0, 2, 0), 1);
+        due.due("odds of 3", x.odds(0, 3, 0), 2);
+        x.ticks(1);
+        due.due("surest of 1 and 2", x.surest(0, 2), 0);
+        due.due("surest of 1 to 3", x.surest(0, 3), 2);
+        x.ticks(1);
+        due.due("surest of 2 and 3", x.surest(0, 2), 1);
+        again(x, 2, 0, 9, -7, 1);
+    }
+
+    /** Each act thinks of the FLYER that it is asked of, and of the SWINGS as they are. */
+    private static void anew() {
+        CatchBars x = Due.plain(0);
+        x.flyer(20);
+        x.flyer(0);
+        Due.fill(x, 0, 8, 40);
+        Due.fill(x, 1, 8, 0);
+        for (int f = 0; f < 3; f++) {
+            int lag = f % 2;
+            x.go(9);
+            due.due("then of " + f, x.then(f, 0, 0), 40 - 40 * lag);
+            due.due("can of " + f, x.can(other(f), 1, 0), 1 - lag);
+            due.due("can of " + f, x.can(f, 1, 0), lag);
+            due.due("surest of " + f, x.surest(other(f), 2), 1 - lag);
+            due.due("surest of " + f, x.surest(f, 2), lag);
+            due.due("odds of " + f, x.odds(other(f), 0, 0), 1 + lag);
+            due.due("odds of " + f, x.odds(f, 0, 0), 2 - lag);
+            due.due("mend of " + f, x.mend(other(f), 0, 0, 0), 40 * lag);
+            due.due("mend of " + f, x.mend(f, 0, 0, 0), 40 - 40 * lag);
+            due.due("again of " + f, x.again(other(f), 1, 0, 9, 1), 1);
+            due.due("again of " + f, x.again(f, 1, 0, 9, 0), lag == 1 ? -8 : -7);
+            due.due("net of " + f, x.net(other(f), 2, 0), -20 + 40 * lag);
+            due.due("net of " + f, x.net(f, 2, 0), 20 - 40 * lag);
+            due.due("pumped of " + f, x.pumped(other(f), 1), lag == 1 ? Due.NONE : 0);
+            due.due("pumped of " + f, x.pumped(f, 1), lag == 1 ? 0 : Due.NONE);
+            due.due("inStep of " + f, x.inStep(other(f), 1), lag == 1 ? 2 : 0);
+            due.due("inStep of " + f, x.inStep(f, 1), lag == 1 ? 0 : 2);
+            due.due("phases of " + f, x.phases(f, 0, 0), lag == 1 ? Due.NONE : 0);
+            due.due("phases of " + f, x.phases(f, 1, 0), lag == 1 ? 0 : 2);
+            due.due("late of " + f, x.late(f, 1), 1);
+            due.due("late, and what comes behind it", x.then(f, 0, 2), 4 + lag);
+        }
+        x.swing(0, 1, 10);
+        due.due("then of a new WIDTH", x.then(0, 0, 0), 30);
+        x.swing(0, 1, 20);
+        due.due("mend of the old WIDTH", x.mend(0, 0, 0, 0), 40);
+        x.swing(1, 2, 2);
+        due.due("can of a new PHASE", x.can(0, 1, 0), 1);
+        x.swing(1, 2, 0);
+        due.due("surest of the old PHASE", x.surest(0, 2), 0);
+    }
+
+    private static int other(int f) {
+        return f == 1 ? 0 : 1;
     }
 
     /** What is thought changes neither SWINGS nor FLYERS nor counts. */
