@@ -220,6 +220,16 @@ public final class LanguageTest {
             }
         }
 
+        @Override public Void visitForLoop(ForLoopTree f, Void v) {
+            must(f.getCondition() != null, "a loop has an end that its own lines show", f);
+            return super.visitForLoop(f, v);
+        }
+
+        @Override public Void visitWhileLoop(WhileLoopTree w, Void v) {
+            must(!w.getCondition().toString().equals("(true)"), "a loop has an end that its own lines show", w);
+            return super.visitWhileLoop(w, v);
+        }
+
         private static boolean onInts(Element e) {
             return !e.toString().contains("double") && !e.toString().contains("float");
         }
