@@ -880,7 +880,7 @@ public final class CatchBars {
         }
 
         private void addStep(int step) {
-            if (count < TAPE_ROOM) {
+            if (count >= 0 && count < TAPE_ROOM) {
                 steps[count] = step;
                 count++;
             }
@@ -1159,7 +1159,7 @@ public final class CatchBars {
 
         int gatherFalls(int n) {
             fallCount = 0;
-            for (int i = 0; i < n && i < MOST_SPAN; i++) {
+            for (int i = 0; i < n && fallCount >= 0 && fallCount < MOST_SPAN; i++) {
                 if (!isCaught(world.tick + i)) {
                     fallPlaces[fallCount] = place;
                     fallCount++;
